@@ -7,17 +7,22 @@ public final class FrameTest {
         choosesCell();
         choosesChannel();
         refusesDisturbedChannels();
+        levelOfThreeWillDo();
+        cellsThatAreNotThereYet();
         laterOnesSeeNewBearers();
         sharesAChannelWhereNothingElseIs();
         fullCell();
         failsAndHandsOver();
+        noiseAtAnyCell();
         prefersAnotherCell();
         handsOverToItsOwnCell();
         handsOverNowhere();
         firstGoesOnlyForAGoodSecond();
         firstThatFailedIsNoHandover();
+        allHaveTwoBearers();
         callerKeepsTrying();
         lostBearerEndsCall();
+        bearersThatAreNoMore();
         stepsOfACall();
         wrongKeyOfCaller();
         wrongKeyOfCalled();
@@ -132,6 +137,47 @@ public final class FrameTest {
         due.is("not in the beacon's slot", x.count(4), 0);
     }
 
+    private static void levelOfThreeWillDo() {
+        due.about("step 1, a level of 3");
+        CordlessHouse x = Houses.two();
+        x.cell(33);
+        x.cell(33);
+        x.cell(33);
+        x.reach(0, 15);
+        Houses.noiseBut(x, 16, 33);
+        due.is("level", x.level(0, 0, 33), 3);
+        x.dial(0, 1);
+        x.frames(4);
+        due.is("channel", x.bearer(0, 2), 33);
+        due.is("not good", x.bearer(0, 4), 0);
+        x.frames(7);
+        due.is("it failed 8 times", x.count(3), 0);
+        due.is("still calling", x.portableOf(0, 0), 1);
+        x.frames(1);
+        due.is("fails of a new one", x.bearer(0, 3), 1);
+        due.is("bearers ever made", x.count(4), 2);
+    }
+
+    private static void cellsThatAreNotThereYet() {
+        due.about("step 1, cells that are not there yet");
+        CordlessHouse x = Houses.two();
+        x.reach(0, 14);
+        x.dial(0, 1);
+        x.frames(20);
+        due.is("bearers ever made", x.count(4), 0);
+        x.cell(50);
+        x.frames(4);
+        due.is("the later one's", x.bearer(0, 1), 1);
+        x = Houses.two();
+        x.cell(1);
+        x.cell(1);
+        x.cell(1);
+        x.reach(0, 14);
+        x.dial(0, 1);
+        x.frames(20);
+        due.is("no beacon of the four is heard", x.count(4), 0);
+    }
+
     private static void laterOnesSeeNewBearers() {
         due.about("step 1, one after the other");
         CordlessHouse x = Houses.many(8);
@@ -232,6 +278,32 @@ public final class FrameTest {
         due.is("fails", x.bearer(0, 3), 0);
         due.is("hands over no more", x.portableOf(0, 4), 0);
         due.is("bearers ever made", x.count(4), 2);
+    }
+
+    private static void noiseAtAnyCell() {
+        due.about("step 2, noise at each cell");
+        for (int c = 0; c < 4; c++) {
+            CordlessHouse x = new CordlessHouse();
+            for (int beacon = 0; beacon < 4; beacon++) {
+                x.cell(beacon);
+            }
+            x.reach(0, 1 << c);
+            x.portable(0, 5);
+            x.portable(1, 5);
+            x.enter(0, 5);
+            x.enter(1, 5);
+            x.dial(0, 1);
+            x.frames(4);
+            due.is("cell", x.bearer(0, 1), c);
+            for (int where = 1; where < 20; where++) {
+                x.noise(where, 10, where != 16 + c);
+            }
+            x.frames(1);
+            due.is("noise elsewhere", x.bearer(0, 4), 1);
+            x.noise(16 + c, 10, true);
+            x.frames(1);
+            due.is("noise at its cell", x.bearer(0, 4), 0);
+        }
     }
 
     private static void prefersAnotherCell() {
@@ -357,6 +429,62 @@ public final class FrameTest {
         due.is("bearers", x.portableOf(0, 3), 1);
         due.is("handovers", x.count(7), 0);
         due.is("bearers ever made", x.count(4), 3);
+    }
+
+    /**
+     * Eight portables hand over at once to cell 1, to which the only channels without noise are
+     * those of their first bearers: the second ones are not good until the first ones are gone.
+     */
+    private static void allHaveTwoBearers() {
+        due.about("steps 1 to 3, 16 bearers");
+        CordlessHouse x = Houses.many(8);
+        x.cell(110);
+        x.reach(0, 3);
+        for (int p = 0; p < 8; p += 2) {
+            x.dial(p, p + 1);
+        }
+        x.frames(10);
+        due.is("bearers", x.count(3), 8);
+        Houses.noiseBut(x, 17, 110);
+        for (int channel = 10; channel <= 80; channel += 10) {
+            x.noise(17, channel, false);
+            x.noise(16, channel, true);
+        }
+        x.frames(7);
+        due.is("bearers", x.count(3), 16);
+        for (int p = 0; p < 8; p++) {
+            due.is("bearers of " + p, x.portableOf(p, 3), 2);
+            due.is("fails of a first one", x.bearer(p, 3), 7);
+        }
+        due.is("the latest one", x.bearer(15, 0), 5);
+        due.is("no more", x.bearer(16, 0), -9);
+        x.frames(1);
+        due.is("bearers", x.count(3), 8);
+        due.is("bearers ever made", x.count(4), 16);
+        due.is("handovers", x.count(7), 0);
+        x.frames(1);
+        for (int i = 0; i < 8; i++) {
+            due.is("good", x.bearer(i, 4), 1);
+            due.is("cell", x.bearer(i, 1), i < 6 ? 1 : 0);
+        }
+        due.is("3 handed over back, at TIME 19", x.bearer(6, 0), 3);
+        due.is("and 7", x.bearer(7, 0), 7);
+        due.is("handovers", x.count(7), 2);
+        due.is("calls that ended", x.count(6), 0);
+    }
+
+    private static void bearersThatAreNoMore() {
+        due.about("a call's bearers are no more");
+        CordlessHouse x = Houses.ringing();
+        due.is("level", x.level(1, 0, 10), 1);
+        x.hang(0);
+        due.is("level", x.level(1, 0, 10), 0);
+        x.dial(0, 1);
+        x.frames(1);
+        due.is("TIME 11: still calling", x.portableOf(0, 0), 1);
+        x.frames(1);
+        due.is("TIME 12: proving", x.portableOf(0, 0), 2);
+        due.is("on the same channel", x.bearer(0, 2), 10);
     }
 
     private static void callerKeepsTrying() {
