@@ -245,7 +245,7 @@ public final class FrameTest {
         x.frames(1);
         due.is("1 and 5", x.count(3), 2);
         x.frames(1);
-        due.is("5's call ended? it waits for a busy one", x.portableOf(1, 0), 0);
+        due.is("1 found 2 busy", x.portableOf(1, 0), 0);
         due.is("2 and 6 as well", x.count(4), 4);
         x = Houses.many(8);
         for (int p = 0; p < 8; p += 2) {
