@@ -8,6 +8,10 @@ final class Due {
         about = what;
     }
 
+    int looked() {
+        return looked;
+    }
+
     void is(String call, long got, long want) {
         looked++;
         if (got != want) {

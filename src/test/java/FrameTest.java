@@ -431,26 +431,9 @@ public final class FrameTest {
         due.is("bearers ever made", x.count(4), 3);
     }
 
-    /**
-     * Eight portables hand over at once to cell 1, to which the only channels without noise are
-     * those of their first bearers: the second ones are not good until the first ones are gone.
-     */
     private static void allHaveTwoBearers() {
         due.about("steps 1 to 3, 16 bearers");
-        CordlessHouse x = Houses.many(8);
-        x.cell(110);
-        x.reach(0, 3);
-        for (int p = 0; p < 8; p += 2) {
-            x.dial(p, p + 1);
-        }
-        x.frames(10);
-        due.is("bearers", x.count(3), 8);
-        Houses.noiseBut(x, 17, 110);
-        for (int channel = 10; channel <= 80; channel += 10) {
-            x.noise(17, channel, false);
-            x.noise(16, channel, true);
-        }
-        x.frames(7);
+        CordlessHouse x = Houses.sixteenBearers();
         due.is("bearers", x.count(3), 16);
         for (int p = 0; p < 8; p++) {
             due.is("bearers of " + p, x.portableOf(p, 3), 2);

@@ -1,14 +1,20 @@
 import java.util.Random;
 
-/** Random runs of calls, the same each time, on CordlessHouse and on PlainHouse at once. */
+/**
+ * Random runs of calls, the same each time, on CordlessHouse and on PlainHouse at once. Each run
+ * has the 512 calls that an object is used for; what to call next is asked of PlainHouse alone.
+ */
 public final class ModelTest {
-    private static final int RUNS = 600;
-    private static final int CALLS = 260;
+    private static final int RUNS = 12000;
+    private static final int CALLS = 512;
+    private static final int LAST_LOOKS = 150;
+    private static final int[] FAR = {Integer.MIN_VALUE, -1000, 32, 64, 1000, Integer.MAX_VALUE - 200};
     private static final Due due = new Due();
 
     private final Random random;
     private final CordlessHouse x = new CordlessHouse();
     private final PlainHouse y = new PlainHouse();
+    private int calls;
 
     private ModelTest(int seed) {
         random = new Random(seed);
@@ -20,20 +26,32 @@ public final class ModelTest {
             due.about("run " + seed);
             ModelTest run = new ModelTest(seed);
             run.furnish();
-            for (int i = 0; i < CALLS; i++) {
-                run.call();
-                run.compare();
+            while (run.calls < CALLS - LAST_LOOKS) {
+                run.act();
+                run.look();
+            }
+            while (run.calls < CALLS) {
+                run.look();
             }
             for (int what = 4; what <= 8; what++) {
-                seen[what] += run.x.count(what);
+                seen[what] += run.y.count(what);
             }
         }
         System.out.println(seen[4] + " bearers, " + seen[5] + " active calls, " + seen[6] + " ended, "
                 + seen[7] + " handovers, " + seen[8] + " blocks up");
         for (int what = 4; what <= 8; what++) {
-            due.is("enough of what count(" + what + ") tells", seen[what] > RUNS, true);
+            due.is("enough of what count(" + what + ") tells", seen[what] > RUNS / 2, true);
         }
         due.end();
+    }
+
+    private void same(String call, long got, long want) {
+        calls++;
+        due.is(call, got, want);
+    }
+
+    private void same(String call, boolean got, boolean want) {
+        same(call, got ? 1L : 0L, want ? 1L : 0L);
     }
 
     private int one(int end) {
@@ -44,51 +62,80 @@ public final class ModelTest {
         return random.nextInt(n) == 0;
     }
 
+    /** Any number: near what may be, or far from it. */
+    private int odd(int end) {
+        return rarely(2) ? one(end + 6) - 3 : FAR[one(FAR.length)] + one(end);
+    }
+
     private int channel() {
         if (rarely(60)) {
-            return one(200) - 40;
+            return odd(120);
         }
-        if (rarely(2) && x.count(3) > 0) {
-            return x.bearer(one(x.count(3)), 2);
+        if (rarely(2) && y.count(3) > 0) {
+            return y.bearer(one(y.count(3)), 2);
         }
         return rarely(3) ? one(120) : one(6) * 10 + one(2);
     }
 
     private int phone() {
-        return rarely(60) ? one(14) - 3 : one(Math.max(1, x.count(2)));
+        return rarely(60) ? odd(8) : one(Math.max(1, y.count(2)));
     }
 
     private int place() {
-        return rarely(60) ? one(22) - 3 : one(4);
+        return rarely(60) ? odd(16) : one(4);
+    }
+
+    private int cell() {
+        return rarely(20) ? odd(4) : one(Math.max(1, y.count(1)));
+    }
+
+    // ---- The house ----
+
+    private void furnish() {
+        for (int i = one(4); i >= 0; i--) {
+            addCell();
+        }
+        for (int place = 0; place < 4; place++) {
+            reach();
+        }
+        for (int i = 2 + one(7); i > 0; i--) {
+            addPhone();
+        }
+        if (rarely(2)) {
+            flood(16 + one(4));
+        }
+        if (rarely(30)) {
+            frames(1000);
+        }
     }
 
     private void addCell() {
         int channel = channel();
-        due.is("cell(" + channel + ")", x.cell(channel), y.cell(channel));
+        same("cell(" + channel + ")", x.cell(channel), y.cell(channel));
     }
 
     private void addPhone() {
         int place = place();
         long key = one(3);
-        int p = x.portable(place, key);
-        due.is("portable(" + place + ")", p, y.portable(place, key));
+        int p = y.portable(place, key);
+        same("portable(" + place + ")", x.portable(place, key), p);
         if (!rarely(8)) {
             enter(p, rarely(12) ? key + 1 : key);
         }
     }
 
     private void enter(int p, long key) {
-        due.is("enter(" + p + ")", x.enter(p, key), y.enter(p, key));
+        same("enter(" + p + ")", x.enter(p, key), y.enter(p, key));
     }
 
     private void reach() {
         int place = place();
-        int cells = rarely(40) ? one(40) - 10 : rarely(3) ? one(16) : 15;
-        due.is("reach(" + place + ", " + cells + ")", x.reach(place, cells), y.reach(place, cells));
+        int cells = rarely(40) ? odd(16) : rarely(3) ? one(16) : 15;
+        same("reach(" + place + ", " + cells + ")", x.reach(place, cells), y.reach(place, cells));
     }
 
     private void noise(int where, int channel, boolean on) {
-        due.is("noise(" + where + ", " + channel + ")", x.noise(where, channel, on),
+        same("noise(" + where + ", " + channel + ")", x.noise(where, channel, on),
                 y.noise(where, channel, on));
     }
 
@@ -102,31 +149,13 @@ public final class ModelTest {
         }
     }
 
-    private void furnish() {
-        for (int i = one(4); i >= 0; i--) {
-            addCell();
-        }
-        for (int place = 0; place < 4; place++) {
-            reach();
-        }
-        for (int i = 2 + one(7); i > 0; i--) {
-            addPhone();
-        }
-        if (rarely(2)) {
-            for (int c = 0; c < x.count(1); c++) {
-                flood(16 + c);
-            }
-        }
-        if (rarely(30)) {
-            due.is("frames(1000)", x.frames(1000), y.frames(1000));
-        }
-    }
+    // ---- Acts ----
 
-    private void call() {
+    private void act() {
         int p = phone();
         switch (one(20)) {
             case 0: reach(); break;
-            case 1: noise(rarely(2) ? 16 + one(5) : place(), channel(), rarely(2)); break;
+            case 1: noise(rarely(2) ? 16 + cell() : place(), channel(), rarely(2)); break;
             case 2: go(p); break;
             case 3: dial(p); break;
             case 4: dial(p); break;
@@ -134,11 +163,10 @@ public final class ModelTest {
             case 6: answerAll(); break;
             case 7: hangSometimes(p); break;
             case 8: say(p); break;
-            case 9: say(p); break;
-            case 10: sayAll(); break;
-            case 11: mend(); break;
-            case 12: rare(p); break;
-            default: frames(); break;
+            case 9: sayAll(); break;
+            case 10: mend(); break;
+            case 11: rare(p); break;
+            default: frames(rarely(80) ? 190 + one(20) : rarely(60) ? odd(3) : 1 + one(5)); break;
         }
     }
 
@@ -147,40 +175,46 @@ public final class ModelTest {
             case 0: addCell(); break;
             case 1: addPhone(); break;
             case 2: enter(p, one(3)); break;
-            default: due.is("answer(" + p + ")", x.answer(p), y.answer(p)); break;
+            default: answer(p); break;
         }
     }
 
     private void go(int p) {
         int place = place();
-        due.is("go(" + p + ", " + place + ")", x.go(p, place), y.go(p, place));
+        same("go(" + p + ", " + place + ")", x.go(p, place), y.go(p, place));
     }
 
     private void dial(int p) {
         int q = phone();
-        due.is("dial(" + p + ", " + q + ")", x.dial(p, q), y.dial(p, q));
+        same("dial(" + p + ", " + q + ")", x.dial(p, q), y.dial(p, q));
+    }
+
+    private void answer(int p) {
+        same("answer(" + p + ")", x.answer(p), y.answer(p));
     }
 
     private void answerAll() {
-        for (int p = 0; p < x.count(2); p++) {
-            due.is("answer(" + p + ")", x.answer(p), y.answer(p));
+        for (int p = 0; p < y.count(2); p++) {
+            if (y.portableOf(p, 0) == 6) {
+                answer(p);
+            }
         }
     }
 
     private void hangSometimes(int p) {
         if (rarely(4)) {
-            due.is("hang(" + p + ")", x.hang(p), y.hang(p));
+            same("hang(" + p + ")", x.hang(p), y.hang(p));
         }
     }
 
     private void say(int p) {
         long block = random.nextLong();
-        due.is("say(" + p + ")", x.say(p, block), y.say(p, block));
+        same("say(" + p + ")", x.say(p, block), y.say(p, block));
     }
 
     private void sayAll() {
-        for (int i = 0; i < 5; i++) {
-            for (int p = 0; p < x.count(2); p++) {
+        for (int p = 0; p < y.count(2); p++) {
+            for (int i = 1 + one(9); i > 0 && y.portableOf(p, 0) == 7; i--) {
                 say(p);
             }
         }
@@ -188,54 +222,70 @@ public final class ModelTest {
 
     /** Takes noise off the bearers, so that calls go on often enough. */
     private void mend() {
-        for (int i = 0; i < x.count(3); i++) {
-            int channel = x.bearer(i, 2);
-            noise(x.portableOf(x.bearer(i, 0), 1), channel, false);
-            noise(16 + x.bearer(i, 1), channel, false);
+        for (int i = 0; i < y.count(3); i++) {
+            int channel = y.bearer(i, 2);
+            noise(y.portableOf(y.bearer(i, 0), 1), channel, false);
+            noise(16 + y.bearer(i, 1), channel, false);
         }
     }
 
-    private void frames() {
-        int n = rarely(80) ? 190 + one(20) : rarely(60) ? one(3) - 1 : 1 + one(5);
-        due.is("frames(" + n + ")", x.frames(n), y.frames(n));
+    private void frames(int n) {
+        same("frames(" + n + ")", x.frames(n), y.frames(n));
     }
 
-    private void compare() {
-        for (int what = -1; what < 18; what++) {
-            due.is("count(" + what + ")", x.count(what), y.count(what));
+    // ---- Looks ----
+
+    private void look() {
+        int p = phone();
+        switch (one(16)) {
+            case 0: lookAtHeard(p, rarely(9) ? odd(20) : one(20)); break;
+            case 1: lookAtHeard(p, 0); break;
+            case 2: lookAtBeacon(cell(), place()); break;
+            case 3: lookAtLevel(p, cell(), channel()); break;
+            case 4: lookAtAir(rarely(9) ? odd(2) : one(2)); break;
+            case 5: lookAtMix(random.nextLong(), random.nextLong()); break;
+            case 6: lookAtBearer(); break;
+            case 7: lookAtBearer(); break;
+            case 8: lookAtBearer(); break;
+            case 9: lookAtPhone(p, one(10)); break;
+            case 10: lookAtPhone(p, rarely(9) ? odd(10) : one(10)); break;
+            case 11: lookAtPhone(p, 0); break;
+            default: lookAtCount(rarely(9) ? odd(17) : one(17)); break;
         }
-        for (int p = -1; p <= x.count(2); p++) {
-            for (int what = -1; what <= 10; what++) {
-                due.is("portableOf(" + p + ", " + what + ")", x.portableOf(p, what),
-                        y.portableOf(p, what));
-            }
-            for (int i = -1; i <= 20; i++) {
-                due.is("heard(" + p + ", " + i + ")", x.heard(p, i), y.heard(p, i));
-            }
-        }
-        for (int i = -1; i <= x.count(3); i++) {
-            for (int what = -1; what <= 5; what++) {
-                due.is("bearer(" + i + ", " + what + ")", x.bearer(i, what), y.bearer(i, what));
-            }
-        }
-        compareAir();
     }
 
-    private void compareAir() {
-        for (int what = -1; what <= 2; what++) {
-            due.is("air(" + what + ")", x.air(what), y.air(what));
-        }
-        for (int c = -1; c <= x.count(1); c++) {
-            for (int place = -1; place <= 4; place++) {
-                due.is("beacon(" + c + ", " + place + ")", x.beacon(c, place), y.beacon(c, place));
-            }
-            int p = phone();
-            int channel = channel();
-            due.is("level(" + p + ", " + c + ", " + channel + ")", x.level(p, c, channel),
-                    y.level(p, c, channel));
-        }
-        long key = random.nextLong();
-        long n = random.nextLong();
-        due.is("mix", x.mix(key, n), y.mix(key, n));
+    private void lookAtHeard(int p, int i) {
+        same("heard(" + p + ", " + i + ")", x.heard(p, i), y.heard(p, i));
+    }
+
+    private void lookAtBeacon(int c, int place) {
+        same("beacon(" + c + ", " + place + ")", x.beacon(c, place), y.beacon(c, place));
+    }
+
+    private void lookAtLevel(int p, int c, int channel) {
+        same("level(" + p + ", " + c + ", " + channel + ")", x.level(p, c, channel),
+                y.level(p, c, channel));
+    }
+
+    private void lookAtAir(int what) {
+        same("air(" + what + ")", x.air(what), y.air(what));
+    }
+
+    private void lookAtMix(long key, long n) {
+        same("mix(" + key + ", " + n + ")", x.mix(key, n), y.mix(key, n));
+    }
+
+    private void lookAtBearer() {
+        int i = rarely(9) ? odd(y.count(3) + 1) : one(y.count(3) + 1);
+        int what = rarely(9) ? odd(5) : one(5);
+        same("bearer(" + i + ", " + what + ")", x.bearer(i, what), y.bearer(i, what));
+    }
+
+    private void lookAtPhone(int p, int what) {
+        same("portableOf(" + p + ", " + what + ")", x.portableOf(p, what), y.portableOf(p, what));
+    }
+
+    private void lookAtCount(int what) {
+        same("count(" + what + ")", x.count(what), y.count(what));
     }
 }
