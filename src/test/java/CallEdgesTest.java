@@ -718,12 +718,18 @@ public final class CallEdgesTest {
             due.is("after the call", x.portableOf(0, 2), -9);
             due.is("after the call", x.portableOf(1, 2), -9);
         });
+        edges.edge("3 how many BEARERS", () -> {
+            due.is("calling", Houses.inState(1).portableOf(0, 3), 0);
+            due.is("proving", Houses.inState(2).portableOf(0, 3), 1);
+            due.is("handed over", FrameEdgesTest.badSecond().portableOf(0, 3), 2);
+        });
         edges.edge("4 1 if it hands over (0)", CallEdgesTest::toldAsItHandsOver);
         edges.edge("5 blocks that wait to go up", () -> {
             for (int n = 0; n <= 8; n++) {
                 due.is("" + n, sayMany(n).portableOf(0, 5), n);
             }
         });
+        edges.edge("6 blocks that wait for it", CallEdgesTest::waitForIt);
         edges.edge("7 blocks that it HEARD in all", () -> {
             for (int n : new int[] {0, 1, 20, 21, 45}) {
                 due.is("" + n, hearMany(n).portableOf(1, 7), n);
@@ -731,6 +737,11 @@ public final class CallEdgesTest {
             CordlessHouse x = hearMany(3);
             x.hang(0);
             due.is("after the call", x.portableOf(1, 7), 3);
+        });
+        edges.edge("8 1 if it is ENTERED", () -> {
+            CordlessHouse x = entered(true, false);
+            due.is("it is", x.portableOf(0, 8), 1);
+            due.is("it is not", x.portableOf(1, 8), 0);
         });
         edges.edge("(0 if IDLE or ACTIVE)", CallEdgesTest::sinceHowManyFrames);
         edges.edge("-9: no such PORTABLE, what", this::noSuchPortableOrWhat);
@@ -746,6 +757,22 @@ public final class CallEdgesTest {
         due.is("the other one", x.portableOf(1, 4), 0);
         x.hang(0);
         due.is("without a bearer", x.portableOf(0, 4), 0);
+    }
+
+    /** As 1 hears none of them, at most 7 frames on end. */
+    private static void waitForIt() {
+        CordlessHouse x = sayMany(8);
+        x.noise(1, 20, true);
+        x.noise(1, 0, true);
+        for (int i = 0; i <= 7; i++) {
+            due.is("for 1", x.portableOf(1, 6), i);
+            due.is("for 0, that says them", x.portableOf(0, 6), 0);
+            if (i < 7) {
+                x.frames(1);
+            }
+        }
+        x.hang(0);
+        due.is("after the call", x.portableOf(1, 6), 0);
     }
 
     private static void sinceHowManyFrames() {
@@ -903,6 +930,26 @@ public final class CallEdgesTest {
             due.is("bearers", x.count(3), 0);
             due.is("ever made", x.count(4), 2);
         });
+        edges.edge("5 calls that became ACTIVE, 6 calls that ENDED", () -> {
+            for (int state = 0; state <= 7; state++) {
+                CordlessHouse x = Houses.inState(state);
+                due.is("active as one is " + state, x.count(5), state == 7 ? 1 : 0);
+                due.is("ended", x.count(6), 0);
+                x.hang(0);
+                due.is("ended after hang", x.count(6), state == 0 ? 0 : 1);
+                due.is("active after hang", x.count(5), state == 7 ? 1 : 0);
+            }
+        });
+        edges.edge("7 handovers done (a first BEARER that went for a second one)",
+                CallEdgesTest::handoversDone);
+        edges.edge("8 blocks that went up", () -> {
+            CordlessHouse x = sayMany(2);
+            due.is("said", x.count(8), 0);
+            x.frames(1);
+            due.is("one went up", x.count(8), 1);
+            x.hang(1);
+            due.is("one was no more", x.count(8), 1);
+        });
         edges.edge("11 .. 16 REFUSALS -1 .. -6", CallEdgesTest::refusalsCounted);
         edges.edge("-9 for another what", () -> {
             for (int what : new int[] {-1, 9, 10, 17, LEAST, MOST}) {
@@ -913,6 +960,26 @@ public final class CallEdgesTest {
                         what == 9 || what == 10 ? -9 : 0);
             }
         });
+    }
+
+    private static void handoversDone() {
+        CordlessHouse x = FrameEdgesTest.badSecond();
+        due.is("two bearers", x.count(7), 0);
+        x.frames(2);
+        due.is("the first one had 8 fails", x.portableOf(0, 3), 1);
+        due.is("that is none", x.count(7), 0);
+        x = FrameEdgesTest.badSecond();
+        x.noise(0, 10, false);
+        x.frames(7);
+        due.is("the second one had 8 fails", x.portableOf(0, 3), 1);
+        due.is("that is none", x.count(7), 0);
+        x = FrameEdgesTest.badSecond();
+        x.hang(0);
+        due.is("nor that both are no more", x.count(7), 0);
+        x = FrameEdgesTest.badSecond();
+        x.reach(0, 1);
+        x.frames(1);
+        due.is("the second one is good", x.count(7), 1);
     }
 
     private static void refusalsCounted() {
