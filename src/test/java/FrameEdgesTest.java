@@ -68,6 +68,11 @@ public final class FrameEdgesTest {
             due.is("after 1000 more", x.count(0), 1001);
         });
         edges.edge("PORTABLES always by numbers", FrameEdgesTest::byNumbers);
+        edges.edge("2 SENDING", FrameEdgesTest::settingUpIsOverAsAllSend);
+        edges.edge("Then of each PORTABLE with two BEARERS", FrameEdgesTest::handsOverAsItsCallEnds);
+        edges.edge("4 CALLS", FrameEdgesTest::pagedAsItsOldCallEnds);
+        edges.edge("5 VOICE", FrameEdgesTest::noVoiceAsTheCallEnds);
+        edges.edge("6 A PORTABLE", FrameEdgesTest::notIdleUntilTheLastStep);
     }
 
     private static void byNumbers() {
@@ -90,6 +95,103 @@ public final class FrameEdgesTest {
         due.is("step 5: the latest up is of 1", x.air(0), 6 ^ x.mix(Houses.KEY1, 11));
         x.frames(1);
         due.is("the latest down is to 1", x.air(1), 5 ^ x.mix(Houses.KEY1, 1000012));
+    }
+
+    // ---- The order of the steps ----
+
+    /** 1 is paged in step 4 of TIME 9, its time, and must wait for the next one, TIME 13. */
+    private static void settingUpIsOverAsAllSend() {
+        CordlessHouse x = Houses.two();
+        x.dial(0, 1);
+        x.frames(4);
+        due.is("made and good in one frame", x.bearer(0, 4), 1);
+        x = Houses.two();
+        x.frames(4);
+        x.dial(0, 1);
+        x.frames(5);
+        due.is("paged at TIME 9", x.portableOf(1, 0), 4);
+        x.frames(3);
+        due.is("still without a bearer", x.portableOf(1, 3), 0);
+        x.frames(1);
+        due.is("with one at TIME 13", x.portableOf(1, 3), 1);
+    }
+
+    /** One has its 8th fail, and ends the call, in the frame in which the other one hands over. */
+    private static void handsOverAsItsCallEnds() {
+        for (int p = 0; p < 2; p++) {
+            CordlessHouse x = Houses.talking();
+            x.frames(2 + p);
+            x.go(1 - p, 9);
+            x.frames(4);
+            x.noise(p, p == 0 ? 10 : 20, true);
+            x.frames(3);
+            due.is("hands over", x.portableOf(p, 4), 1);
+            due.is("fails of the other one", x.bearer(1 - p, 3), 7);
+            x.frames(1);
+            due.is("a second bearer was made", x.count(4), 3);
+            due.is("it was good: a handover", x.count(7), 1);
+            due.is("then the call ended", x.count(6), 1);
+            due.is("bearers", x.count(3), 0);
+        }
+    }
+
+    /** 1 is idle in step 3 of TIME 18, as 0 has its 8th fail, and 5 is proven in step 4. */
+    private static void pagedAsItsOldCallEnds() {
+        CordlessHouse x = Houses.many(6);
+        x.dial(0, 1);
+        x.frames(10);
+        x.answer(1);
+        x.go(0, 9);
+        x.frames(6);
+        x.dial(5, 1);
+        x.frames(1);
+        due.is("5 is proving at TIME 17", x.portableOf(5, 0), 2);
+        due.is("1 is active", x.portableOf(1, 0), 7);
+        x.frames(1);
+        due.is("0 is idle", x.portableOf(0, 0), 0);
+        due.is("5 is waiting", x.portableOf(5, 0), 3);
+        due.is("1 is paged", x.portableOf(1, 0), 4);
+        due.is("by 5", x.portableOf(1, 2), 5);
+        due.is("calls that ended", x.count(6), 1);
+    }
+
+    /** In the frame in which 1 has its 8th fail 0 has a good bearer, but no call any more. */
+    private static void noVoiceAsTheCallEnds() {
+        CordlessHouse x = Houses.talking();
+        x.say(1, 5);
+        x.frames(1);
+        x.noise(0, 0, true);
+        x.noise(0, 10, true);
+        x.go(1, 9);
+        x.say(0, 6);
+        x.frames(7);
+        due.is("7 fails of 0", x.bearer(0, 3), 7);
+        due.is("7 fails of 1", x.bearer(1, 3), 7);
+        due.is("waits to go up", x.portableOf(0, 5), 1);
+        due.is("waits for it", x.portableOf(0, 6), 1);
+        x.noise(0, 10, false);
+        due.is("none is heard", x.frames(1), 0);
+        due.is("none went up but that of 1", x.count(8), 1);
+        due.is("none went down", x.air(1), 0);
+        due.is("idle", x.portableOf(0, 0), 0);
+        due.is("nothing waits", x.portableOf(0, 5) + x.portableOf(0, 6), 0);
+    }
+
+    /** 0 is idle only in step 6 of TIME 202; 5, proven in step 4, still finds it calling. */
+    private static void notIdleUntilTheLastStep() {
+        CordlessHouse x = Houses.many(6);
+        x.go(0, 9);
+        x.frames(1);
+        x.dial(0, 1);
+        x.frames(199);
+        x.dial(5, 0);
+        x.frames(1);
+        due.is("5 is proving at TIME 201", x.portableOf(5, 0), 2);
+        due.is("frames of 0", x.portableOf(0, 9), 200);
+        x.frames(1);
+        due.is("5 is idle", x.portableOf(5, 0), 0);
+        due.is("0 is idle", x.portableOf(0, 0), 0);
+        due.is("calls that ended", x.count(6), 2);
     }
 
     // ---- 1 SETTING UP: who, when ----

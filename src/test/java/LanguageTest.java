@@ -27,6 +27,7 @@ public final class LanguageTest {
             "->", "::", "\\b(protected|native|strictfp|transient)\\b", "\\bstatic\\s*\\{",
             "\\b(hashCode|toString|equals)\\b", "\\w+Exact\\b",
             "\\b(System|Thread|Random|Object|Class)\\b", "@", "while \\(true\\)", "for \\(;;\\)");
+    private static final Set<String> LIBRARY = Set.of("Math.max(", "Integer.bitCount(");
     private static final Due due = new Due();
 
     public static void main(String[] args) throws IOException {
@@ -50,6 +51,10 @@ public final class LanguageTest {
             due.is(word, found.find(), false);
         }
         due.is("no characters above 255", code.chars().allMatch(c -> c < 256), true);
+        Matcher used = Pattern.compile("\\b[A-Z]\\w*\\.\\w+\\(").matcher(code);
+        while (used.find()) {
+            due.is("rule 4, " + used.group() + ")", LIBRARY.contains(used.group()), true);
+        }
     }
 
     private static String told(Method m) {
@@ -95,6 +100,11 @@ public final class LanguageTest {
         for (Class<?> one : inside) {
             due.is(one.getName() + " is static", Modifier.isStatic(one.getModifiers()), true);
             looksAtFields(one);
+            for (Method m : one.getDeclaredMethods()) {
+                String named = ".* " + m.getName() + "\\(.*";
+                due.is(m.getName() + " is a name of its own",
+                        FACE.stream().anyMatch(call -> call.matches(named)), false);
+            }
         }
         looksAtFields(CordlessHouse.class);
     }

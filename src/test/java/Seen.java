@@ -5,7 +5,8 @@ import java.util.function.ToLongFunction;
 
 /**
  * All that can be seen of a house but its refusals (of the levels: those of two portables). A
- * house is used for 512 calls, so each part is asked of a house of its own, made anew.
+ * house is used for 512 calls, so each part is asked of a house of its own, made anew. What can
+ * only be seen by changing it, who reaches a place and where there is noise, is asked last.
  */
 final class Seen {
     private static final int PART = 120;
@@ -46,6 +47,10 @@ final class Seen {
         for (int p = 0; p < 2; p++) {
             askLevels(all, p);
         }
+        askReach(all);
+        for (int where = 0; where < 20; where++) {
+            askNoise(all, where);
+        }
         return all;
     }
 
@@ -81,6 +86,20 @@ final class Seen {
                 int asked = channel;
                 all.add(x -> x.level(p, cell, asked));
             }
+        }
+    }
+
+    private static void askReach(List<ToLongFunction<CordlessHouse>> all) {
+        for (int place = 0; place < 16; place++) {
+            int asked = place;
+            all.add(x -> x.reach(asked, 0));
+        }
+    }
+
+    private static void askNoise(List<ToLongFunction<CordlessHouse>> all, int where) {
+        for (int channel = 0; channel < 120; channel++) {
+            int asked = channel;
+            all.add(x -> x.noise(where, asked, true) ? 1 : 0);
         }
     }
 }
